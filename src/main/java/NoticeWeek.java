@@ -985,18 +985,15 @@ public final class NoticeWeek {
     }
 
     private static class Proud extends Temper {
-        @Override
         int deedsOn(int day, int did, int notice) {
             return least(notice & ~did);
         }
 
-        @Override
         int size(Town town, int reader, Trace trace) {
             trace.leave(11);
             return super.size(town, reader, trace) + mark(town, reader, trace);
         }
 
-        @Override
         int mark(Town town, int reader, Trace trace) {
             trace.leave(21);
             return super.mark(town, reader, trace) + Integer.bitCount(town.did[reader]);
@@ -1004,19 +1001,16 @@ public final class NoticeWeek {
     }
 
     private static final class Vain extends Proud {
-        @Override
         int deedsOn(int day, int did, int notice) {
             int one = super.deedsOn(day, did, notice);
             return one | least(notice & ~did & ~one);
         }
 
-        @Override
         int size(Town town, int reader, Trace trace) {
             trace.leave(12);
             return -super.size(town, reader, trace);
         }
 
-        @Override
         int mark(Town town, int reader, Trace trace) {
             trace.leave(24);
             return 2 * super.mark(town, reader, trace);
@@ -1026,12 +1020,10 @@ public final class NoticeWeek {
     private static final class Shy extends Proud {
         private static final int MOST_DARED = 2;
 
-        @Override
         int deedsOn(int day, int did, int notice) {
             return Integer.bitCount(notice & ~did) <= MOST_DARED ? super.deedsOn(day, did, notice) : 0;
         }
 
-        @Override
         int mark(Town town, int reader, Trace trace) {
             trace.leave(22);
             return super.mark(town, reader, trace) - 1000;
@@ -1039,18 +1031,15 @@ public final class NoticeWeek {
     }
 
     private static class Cross extends Temper {
-        @Override
         int deedsOn(int day, int did, int notice) {
             return least(ALL_DEEDS & ~notice & ~did);
         }
 
-        @Override
         int size(Town town, int reader, Trace trace) {
             trace.leave(13);
             return super.size(town, reader, trace) - 100;
         }
 
-        @Override
         int mark(Town town, int reader, Trace trace) {
             trace.leave(23);
             return super.mark(town, reader, trace) - size(town, reader, trace);
@@ -1058,12 +1047,10 @@ public final class NoticeWeek {
     }
 
     private static final class Calm extends Cross {
-        @Override
         int deedsOn(int day, int did, int notice) {
             return day % 2 == 0 ? super.deedsOn(day, did, notice) : 0;
         }
 
-        @Override
         int size(Town town, int reader, Trace trace) {
             trace.leave(14);
             return 2 * super.size(town, reader, trace);
