@@ -67,11 +67,9 @@ public final class NoticeWeek {
         if (!Rows.isRow(row)) {
             return BAD;
         }
-        if (rows.isMissing(row)) {
-            return found(NULL);
-        }
-        if (!rows.hasPlaces(row, i, 1)) {
-            return found(PLACE);
+        int lack = lackOf(row, i, 1);
+        if (lack != 0) {
+            return found(lack);
         }
         return well(rows.put(row, i, v));
     }
@@ -291,11 +289,9 @@ public final class NoticeWeek {
         if (!town.has(reader) || !Rows.isRow(row) || !isToldDays(n)) {
             return BAD;
         }
-        if (rows.isMissing(row)) {
-            return found(NULL);
-        }
-        if (!rows.hasPlaces(row, i, n)) {
-            return found(PLACE);
+        int lack = lackOf(row, i, n);
+        if (lack != 0) {
+            return found(lack);
         }
         int kinds = 0;
         for (int kind = PROUD; kind <= CALM; kind++) {
@@ -311,11 +307,9 @@ public final class NoticeWeek {
         if (!town.has(reader) || !Rows.isRow(row) || !isToldDays(n) || !isChoice(what)) {
             return BAD;
         }
-        if (rows.isMissing(row)) {
-            return found(NULL);
-        }
-        if (!rows.hasPlaces(row, i, n)) {
-            return found(PLACE);
+        int lack = lackOf(row, i, n);
+        if (lack != 0) {
+            return found(lack);
         }
         int many = 0;
         int leastNotice = NONE;
@@ -425,6 +419,14 @@ public final class NoticeWeek {
         return answer;
     }
 
+    /** The FINDING of n ITEMS of a ROW from i on; 0 if they are there. */
+    private int lackOf(int row, int i, int n) {
+        if (rows.isMissing(row)) {
+            return NULL;
+        }
+        return rows.hasPlaces(row, i, n) ? 0 : PLACE;
+    }
+
     private void keepAct() {
         acts[nextAct].become(town);
         nextAct = (nextAct + 1) % MOST_ACTS;
@@ -493,7 +495,7 @@ public final class NoticeWeek {
         return power;
     }
 
-    /** Of b above 0 and a not below 0; by a = 0 it is b, so that 0 is told as 0 by 1. */
+    /** Of b above 0 and a not below 0: never 0; by a = 0 it is b, so that 0 is told as 0 by 1. */
     private static int greatestDivisor(int a, int b) {
         int more = b;
         int less = a;

@@ -74,6 +74,7 @@ public final class ForetoldTest {
                 """);
         script.run("promise 19: of several the least", "read w0;p0,7,9;c0,1,4;k0,1,4;c0,1,3;k0,1,3; -> 5 | first 0 -> 3 | first 1 -> 3");
         script.run("promise 19: a dead one is not asked", "read w0;p0,1,0;p0,1,1;c0,0,60; -> 3 | first 0 -> 2 | first 1 -> 60");
+        script.run("promise 19: one FALSE LINE is enough", "read w0;p2,1,7;p2,3,1; -> 2 | first 0 -> 0 | first 1 -> 7");
         script.run("promise 19: none", "read w0;p0,1,0;p0,1,1; -> 2 | first 0 -> NONE | first 1 -> NONE | first 2 -> BAD");
         script.run("promise 19: STATE is ahead of BAD", "first 0 -> STATE | first 2 -> STATE");
     }
@@ -96,6 +97,11 @@ public final class ForetoldTest {
         script.run("promise 20: an odd DAY is the last of a calm one", """
                 read w0;k0,0,2; -> 1 | days 1 -> 1 | toWrite 0 1 0 -> 0 | toWrite 0 1 1 -> 1 | toWrite 0 2 0 -> NONE | toWrite 0 2 1 -> NONE
                 """);
+        script.run("promise 20: many FALSE LINES, and the highest NOTICE", """
+                read w0;c0,0,60;k1,0,60;p0,0,60;v0,0,3; -> 4
+                toWrite 0 63 0 -> 6 | toWrite 0 63 1 -> 0 | toWrite 1 63 0 -> 5 | toWrite 1 63 1 -> 1
+                toWrite 2 63 0 -> 0 | toWrite 2 63 1 -> 63 | toWrite 3 63 0 -> 0 | toWrite 3 63 1 -> 63
+                """);
         script.run("promise 20: refused", TOWN + """
                 toWrite 5 0 0 -> STATE | toWrite 5 0 1 -> STATE | toWrite 5 64 0 -> BAD | toWrite 5 0 2 -> BAD
                 toWrite 6 0 0 -> BAD | toWrite -1 0 0 -> BAD | toWrite 0 64 0 -> BAD | toWrite 0 -1 0 -> BAD
@@ -116,6 +122,10 @@ public final class ForetoldTest {
         script.run("promise 21: what a cross one denies it does anew, as long as it lives", """
                 read w0;c3,1,1;c3,1,0;k3,1,2; -> 3 | toDeny 0 0 -> NONE | toDeny 1 1 -> 2 | toDeny 2 0 -> NONE
                 days 1 -> 4 | toDeny 0 0 -> 2 | toDeny 0 1 -> 6 | toDeny 2 0 -> 2 | toDeny 2 1 -> 6
+                """);
+        script.run("promise 21: all that it did", """
+                read w0;p63,0,0;v63,0,60;s31,0,9; -> 3 | toDeny 0 0 -> 6 | toDeny 0 1 -> 63
+                toDeny 1 0 -> 6 | toDeny 1 1 -> 63 | toDeny 2 0 -> 5 | toDeny 2 1 -> 31
                 """);
         script.run("promise 21: no TOWN", "toDeny 0 0 -> BAD");
     }
