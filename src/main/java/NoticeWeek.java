@@ -334,7 +334,8 @@ public final class NoticeWeek {
         int all = tenToThe(town.readers);
         int good = foresight.waysToBeTrue(town, k, c);
         int common = greatestDivisor(good, all);
-        return what == 0 ? good / common : all / common;
+        int part = what == 0 ? good : all;
+        return common > 1 ? part / common : part;
     }
 
     public int image(int k) {

@@ -12,6 +12,9 @@ import java.util.regex.Pattern;
  * it did not hold. A sentence that the document does not have fails, and so does one that no test names.
  */
 final class Edges {
+    /** The beginning of many scripts: one of each KIND, and one who is dead. */
+    static final String TOWN = "read w9;p1,7,5;v0,63,2;s2,61,9;c4,3,3;k0,9,60;p5,5,0; -> 6\n";
+
     private static final Path DOCUMENT = Path.of("../shared/DOC.md");
 
     private final Script script = new Script();
@@ -85,6 +88,15 @@ final class Edges {
     /** A script of one call and its answer, several times. */
     static String times(int n, String call) {
         return (call + "\n").repeat(n);
+    }
+
+    /** A script that undoes all ACTS, so many. */
+    static String undone(int acts) {
+        StringBuilder run = new StringBuilder();
+        for (int left = acts - 1; left >= 0; left--) {
+            run.append("undo -> ").append(left).append('\n');
+        }
+        return run.toString();
     }
 
     /** A script that makes a ROW of a LANE with these ITEMS. */

@@ -1,6 +1,6 @@
 /** Promises 28 to 32, sentence by sentence: kind, as, ask, trace, count. */
 final class EdgesOfAskCalls {
-    private static final String TOWN = "read w9;p1,7,5;v0,63,2;s2,61,9;c4,3,3;k0,9,60;p5,5,0; -> 6\n";
+    private static final String TOWN = Edges.TOWN;
 
     static void tell(Edges edges) {
         kind(edges);

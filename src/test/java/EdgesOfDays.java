@@ -72,7 +72,7 @@ final class EdgesOfDays {
                         + undoes(17, 59) + "undo -> STATE | reader 0 1 -> 43 | count 3 -> 0",
                 // What is undone makes room anew.
                 one + writes(1, 30) + "undo -> 23 | undo -> 22 | write 0 1 -> 28 | write 0 2 -> 1 | write 0 3 -> 2 | count 6 -> 24 | undo -> 23 | undo -> 22 | undo -> 21 | reader 0 1 -> 28",
-                one + "days 20 -> 1 | count 6 -> 20 | days 4 -> 1 | count 6 -> 24 | days 1 -> 1 | count 6 -> 24\n" + undone(24) + "count 3 -> 1 | undo -> STATE");
+                one + "days 20 -> 1 | count 6 -> 20 | days 4 -> 1 | count 6 -> 24 | days 1 -> 1 | count 6 -> 24\n" + Edges.undone(24) + "count 3 -> 1 | undo -> STATE");
         edges.holds("each can be undone, the latest first):",
                 "read w0;p1,6,5; -> 1 | write 0 2 -> 6 | deny 0 0 -> 0 | spare 0 4 -> 9 | days 1 -> 1 | count 6 -> 4 | reader 0 0 -> 2 | reader 0 2 -> 8\n"
                         + "undo -> 3 | count 3 -> 0 | reader 0 0 -> 0 | reader 0 2 -> 9 | undo -> 2 | reader 0 2 -> 5 | reader 0 0 -> 0\n"
@@ -107,14 +107,6 @@ final class EdgesOfDays {
         StringBuilder run = new StringBuilder();
         for (int k = 1; k <= acts; k++) {
             run.append("undo -> ").append(acts - k).append(" | reader 0 1 -> ").append(notice + 1 - k).append('\n');
-        }
-        return run.toString();
-    }
-
-    private static String undone(int acts) {
-        StringBuilder run = new StringBuilder();
-        for (int k = 1; k <= acts; k++) {
-            run.append("undo -> ").append(acts - k).append('\n');
         }
         return run.toString();
     }

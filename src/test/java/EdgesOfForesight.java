@@ -1,6 +1,6 @@
 /** What the document's section Terms says in part 3: what is FORETOLD, and the KINDS of READERS. */
 final class EdgesOfForesight {
-    private static final String TOWN = "read w9;p1,7,5;v0,63,2;s2,61,9;c4,3,3;k0,9,60;p5,5,0; -> 6\n";
+    private static final String TOWN = Edges.TOWN;
     /** ROW 0 tells what a calm one does in 16 DAYS from DAY 0 on; ROW 1 a proud one, behind an ITEM that is 0. */
     private static final String SIXTEEN = Edges.rowOf(0, 0, 1, 1, 3, 3, 7, 7, 15, 15, 31, 31, 63, 63, 63, 63, 63, 63)
             + Edges.rowOf(1, 2, 0, 1, 3, 7, 15, 31, 63, 63, 63, 63, 63, 63, 63, 63, 63, 63, 63);

@@ -1,6 +1,6 @@
 /** Promises 15 to 27, sentence by sentence: what is FORETOLD, and IMAGES. */
 final class EdgesOfForetoldCalls {
-    private static final String TOWN = "read w9;p1,7,5;v0,63,2;s2,61,9;c4,3,3;k0,9,60;p5,5,0; -> 6\n";
+    private static final String TOWN = Edges.TOWN;
     private static final String TOLD_ROWS = TOWN + "row 0 0 12 -> 12 | set 0 0 3 -> 3 | set 0 1 7 -> 7 | row 1 1 40 -> 40 | row 3 2 0 -> 0\n";
 
     static void tell(Edges edges) {

@@ -1,6 +1,6 @@
 /** What the document's section Terms says ahead of its parts: numbers, sets, refusals, FINDINGS. */
 final class EdgesOfTerms {
-    private static final String TOWN = "read w9;p1,7,5;v0,63,2;s2,61,9;c4,3,3;k0,9,60;p5,5,0; -> 6\n";
+    private static final String TOWN = Edges.TOWN;
 
     /** A state with ACTS, both IMAGES, ROWS of all LANES, a TRACE, a FAULT and bytes on the tape. */
     private static final String FULL_OF_THINGS = TOWN + """

@@ -1,6 +1,6 @@
 /** Promises 6 to 14, sentence by sentence: feed, town, fault, days, write, deny, spare, undo, reader. */
 final class EdgesOfTownCalls {
-    private static final String TOWN = "read w9;p1,7,5;v0,63,2;s2,61,9;c4,3,3;k0,9,60;p5,5,0; -> 6\n";
+    private static final String TOWN = Edges.TOWN;
 
     static void tell(Edges edges) {
         feed(edges);
@@ -114,15 +114,7 @@ final class EdgesOfTownCalls {
         edges.holds("STATE: none.",
                 "undo -> STATE | read w0;p0,0,9; -> 1 | undo -> STATE | days 1 -> 1 | undo -> 0 | undo -> STATE | write 0 1 -> 0 | undo -> 0 | undo -> STATE",
                 "read w0;p0,0,9; -> 1 | days 3 -> 1 | image 0 -> 1 | restore 0 -> 1 | undo -> STATE | days 1 -> 1 | read w0; -> 0 | undo -> STATE",
-                "read w0;p0,0,60; -> 1 | days 20 -> 1 | days 5 -> 1\n" + undone(24) + "undo -> STATE | count 3 -> 1");
-    }
-
-    private static String undone(int acts) {
-        StringBuilder run = new StringBuilder();
-        for (int left = acts - 1; left >= 0; left--) {
-            run.append("undo -> ").append(left).append('\n');
-        }
-        return run.toString();
+                "read w0;p0,0,60; -> 1 | days 20 -> 1 | days 5 -> 1\n" + Edges.undone(24) + "undo -> STATE | count 3 -> 1");
     }
 
     private static void reader(Edges edges) {
